@@ -1,0 +1,109 @@
+/** What the tests share: answers compared with those that are due, and calls in plain words. */
+final class Due {
+    private static int wrong = 0;
+
+    interface Call {
+        long answer();
+    }
+
+    private Due() {
+    }
+
+    static void is(String what, long got, long want) {
+        if (got != want) {
+            wrong++;
+            System.out.println(what + " answered " + got + ", due is " + want);
+        }
+    }
+
+    static void is(String what, boolean got, boolean want) {
+        is(what, got ? 1 : 0, want ? 1 : 0);
+    }
+
+    static void is(String what, String got, String want) {
+        if (!got.equals(want)) {
+            wrong++;
+            System.out.println(what + " answered '" + got + "', due is '" + want + "'");
+        }
+    }
+
+    /** The very class of the exception is due, not one below it. */
+    static void fails(String what, Class<? extends RuntimeException> want, Call call) {
+        String got;
+        try {
+            got = "answered " + call.answer();
+        } catch (RuntimeException e) {
+            if (e.getClass() == want) {
+                return;
+            }
+            got = "threw " + e.getClass().getSimpleName();
+        }
+        wrong++;
+        System.out.println(what + " " + got + ", due is " + want.getSimpleName());
+    }
+
+    static void failsIndex(String what, Call call) {
+        fails(what, IndexOutOfBoundsException.class, call);
+    }
+
+    static void failsArgument(String what, Call call) {
+        fails(what, IllegalArgumentException.class, call);
+    }
+
+    static void failsState(String what, Call call) {
+        fails(what, IllegalStateException.class, call);
+    }
+
+    static void type(PatchbayScript script, String signs) {
+        for (int i = 0; i < signs.length(); i++) {
+            script.type(signs.charAt(i));
+        }
+    }
+
+    static int line(PatchbayScript script, String text) {
+        type(script, text);
+        return script.line();
+    }
+
+    static int show(PatchbayScript script, int task, int line, String text) {
+        type(script, text);
+        return script.show(task, line);
+    }
+
+    static String text(PatchbayScript script, int line) {
+        StringBuilder text = new StringBuilder();
+        for (int i = 0; i < script.length(line); i++) {
+            text.append(script.signAt(line, i));
+        }
+        return text.toString();
+    }
+
+    /** What a task would make of a line, or "?". */
+    static String preview(PatchbayScript script, int task, int line) {
+        StringBuilder text = new StringBuilder();
+        for (int i = 0; script.preview(task, line, i) != '!'; i++) {
+            text.append(script.preview(task, line, i));
+            if (text.toString().equals("?")) {
+                break;
+            }
+        }
+        return text.toString();
+    }
+
+    /** An atom of what a task has learnt: its kind, its numbers a, b, c, its weight. */
+    static String atom(PatchbayScript script, int task, boolean isElse, int place) {
+        StringBuilder numbers = new StringBuilder();
+        for (int what = 0; what <= 4; what++) {
+            numbers.append(what == 0 ? "" : " ").append(script.atomAt(task, isElse, place, what));
+        }
+        return numbers.toString();
+    }
+
+    /** Ends the test, as the tests under ../shared/tests end. */
+    static void end() {
+        System.out.println(wrong == 0 ? "all answers are as due" : wrong + " answers are not as due");
+        if (wrong != 0) {
+            System.exit(1);
+        }
+    }
+}
