@@ -13,7 +13,9 @@ public final class PatchbayScript {
     private final Text made;
     private final Task[] tasks;
     private final Line[] lines;
-    private final Run[] runsDone;
+    /** What the task had learnt when it ran, by run, as it may learn anew; and whether the run counts. */
+    private final Learnt[] ranBy;
+    private final boolean[] runCounts;
     private final Learner learner;
     private int lineCount;
     private int runCount;
@@ -30,10 +32,11 @@ public final class PatchbayScript {
         for (int i = 0; i < LINES; i++) {
             lines[i] = new Line();
         }
-        runsDone = new Run[RUNS];
+        ranBy = new Learnt[RUNS];
         for (int i = 0; i < RUNS; i++) {
-            runsDone[i] = new Run();
+            ranBy[i] = new Learnt();
         }
+        runCounts = new boolean[RUNS];
         learner = new Learner();
     }
 
@@ -154,7 +157,10 @@ public final class PatchbayScript {
         if (tasks[task].examples == 0) {
             throw new IllegalStateException("the task has no examples");
         }
-        learner.learnTask(tasks[task]);
+        learner.findBest(tasks[task]);
+        if (!learner.learnBest(tasks[task])) {
+            learner.learnParted(tasks[task]);
+        }
         if (!tasks[task].learnt.any) {
             tasks[task].standing = false;
             return NONE;
@@ -248,16 +254,16 @@ public final class PatchbayScript {
     }
 
     public boolean undo(int run) throws IndexOutOfBoundsException {
-        if (run < 0 || run >= runCount) {
+        if (run < 0 || run >= runCount || run >= RUNS) {
             throw new IndexOutOfBoundsException("there is no such run");
         }
-        runsDone[run].counts = !runsDone[run].counts;
+        runCounts[run] = !runCounts[run];
         for (int i = 0; i < lineCount; i++) {
             if (lines[i].hasStep(run)) {
                 makeAgain(lines[i]);
             }
         }
-        return runsDone[run].counts;
+        return runCounts[run];
     }
 
     public boolean stand(int task, boolean is) throws IndexOutOfBoundsException, IllegalStateException {
@@ -320,7 +326,8 @@ public final class PatchbayScript {
         }
         int number = runCount;
         runCount++;
-        runsDone[number].begin(task.learnt);
+        ranBy[number].set(task.learnt);
+        runCounts[number] = true;
         int having = 0;
         for (int i = from; i <= to && i < LINES; i++) {
             if (task.hasExampleOn(i)) {
@@ -344,7 +351,7 @@ public final class PatchbayScript {
             int step = line.steps[i];
             if (step < 0) {
                 line.now.set(shownAt(step));
-            } else if (step < RUNS && runsDone[step].counts && runsDone[step].learnt.makes(line.now, made)) {
+            } else if (step < RUNS && runCounts[step] && ranBy[step].makes(line.now, made)) {
                 line.now.set(made);
             }
         }
@@ -362,20 +369,22 @@ public final class PatchbayScript {
         static final int CODES = 128;
         static final int MARKS = 6;
 
-        static boolean isDigit(char sign) {
-            return sign >= '0' && sign <= '9';
-        }
-
-        static boolean isCapital(char sign) {
-            return sign >= 'A' && sign <= 'Z';
-        }
-
-        static boolean isSmall(char sign) {
-            return sign >= 'a' && sign <= 'z';
+        static boolean isOf(char sign, int kind) {
+            boolean isCapital = sign >= 'A' && sign <= 'Z';
+            switch (kind) {
+                case 0:
+                    return sign >= '0' && sign <= '9';
+                case 1:
+                    return isCapital || sign >= 'a' && sign <= 'z';
+                case 2:
+                    return isCapital;
+                default:
+                    return sign != ' ';
+            }
         }
 
         static boolean isOfTexts(char sign) {
-            if (isDigit(sign) || isCapital(sign) || isSmall(sign)) {
+            if (isOf(sign, 0) || isOf(sign, 1)) {
                 return true;
             }
             for (int mark = 1; mark < MARKS; mark++) {
@@ -384,19 +393,6 @@ public final class PatchbayScript {
                 }
             }
             return false;
-        }
-
-        static boolean isOf(char sign, int kind) {
-            switch (kind) {
-                case 0:
-                    return isDigit(sign);
-                case 1:
-                    return isCapital(sign) || isSmall(sign);
-                case 2:
-                    return isCapital(sign);
-                default:
-                    return sign != ' ';
-            }
         }
 
         static char markOf(int mark) {
@@ -418,23 +414,25 @@ public final class PatchbayScript {
         static char turned(char sign, int way, boolean isFirst) {
             boolean toCapital = way == 1 || way == 3 && isFirst;
             boolean toSmall = way == 2 || way == 3 && !isFirst;
-            if (toCapital && isSmall(sign)) {
+            if (toCapital && sign >= 'a' && sign <= 'z') {
                 return (char) (sign - 'a' + 'A');
             }
-            if (toSmall && isCapital(sign)) {
+            if (toSmall && sign >= 'A' && sign <= 'Z') {
                 return (char) (sign - 'A' + 'a');
             }
             return sign;
         }
     }
 
-    /** A text; its row is made once, as nothing that is made is ever given back. */
+    /** A text; its rows are made once, as nothing that is made is ever given back. */
     private static final class Text {
         static final int MOST = 20;
         static final int SPOTS = 30;
         static final int RUN_SPOTS = 6;
 
         private final char[] signs = new char[MOST];
+        /** By class: the places of its signs, as a set of bits. */
+        private final int[] placesOf = new int[Sign.CLASSES];
         int size;
 
         /** Says whether there was room for the sign. */
@@ -443,6 +441,11 @@ public final class PatchbayScript {
                 return false;
             }
             signs[size] = sign;
+            for (int kind = 0; kind < Sign.CLASSES; kind++) {
+                if (Sign.isOf(sign, kind)) {
+                    placesOf[kind] |= 1 << size;
+                }
+            }
             size++;
             return true;
         }
@@ -453,6 +456,9 @@ public final class PatchbayScript {
 
         void clear() {
             size = 0;
+            for (int kind = 0; kind < Sign.CLASSES; kind++) {
+                placesOf[kind] = 0;
+            }
         }
 
         void set(Text other) {
@@ -460,14 +466,17 @@ public final class PatchbayScript {
             for (int i = 0; i < MOST; i++) {
                 signs[i] = other.signs[i];
             }
+            for (int kind = 0; kind < Sign.CLASSES; kind++) {
+                placesOf[kind] = other.placesOf[kind];
+            }
         }
 
         boolean isLike(Text other) {
             if (size != other.size) {
                 return false;
             }
-            for (int i = 0; i < size; i++) {
-                if (at(i) != other.at(i)) {
+            for (int i = 0; i < size && i < MOST; i++) {
+                if (signs[i] != other.signs[i]) {
                     return false;
                 }
             }
@@ -475,34 +484,25 @@ public final class PatchbayScript {
         }
 
         boolean has(char sign) {
-            for (int i = 0; i < size; i++) {
-                if (at(i) == sign) {
+            for (int i = 0; i < size && i < MOST; i++) {
+                if (signs[i] == sign) {
                     return true;
                 }
             }
             return false;
         }
 
-        boolean isOf(int place, int kind) {
-            return place >= 0 && place < size && Sign.isOf(at(place), kind);
-        }
-
-        boolean beginsRun(int place, int kind) {
-            return isOf(place, kind) && !isOf(place - 1, kind);
-        }
-
-        boolean endsRun(int place, int kind) {
-            return isOf(place, kind) && !isOf(place + 1, kind);
-        }
-
-        int runsOf(int kind) {
-            int found = 0;
-            for (int i = 0; i < size; i++) {
-                if (beginsRun(i, kind)) {
-                    found++;
-                }
+        /** The places of a class: of the part 0 all, 1 where its runs begin, 2 the last ones of its runs. */
+        int placesOfRuns(int kind, int part) {
+            int places = kind >= 0 && kind < Sign.CLASSES ? placesOf[kind] : 0;
+            switch (part) {
+                case 1:
+                    return places & ~(places << 1);
+                case 2:
+                    return places & ~(places >> 1);
+                default:
+                    return places;
             }
-            return found;
         }
 
         int placeOfSpot(int spot) {
@@ -517,20 +517,20 @@ public final class PatchbayScript {
             }
             int kind = (spot - RUN_SPOTS) / 6;
             boolean isEnd = (spot - RUN_SPOTS) % 6 >= 3;
-            return placeOfRun(kind, isEnd, spot % 3);
+            int place = placeOfRun(placesOfRuns(kind, isEnd ? 2 : 1), spot % 3);
+            return isEnd && place != NONE ? place + 1 : place;
         }
 
-        /** Which: 0 the first run, 1 the second one, 2 the last one. */
-        private int placeOfRun(int kind, boolean isEnd, int which) {
-            int seen = 0;
+        /** Which: 0 the first one of the places, 1 the second one, 2 the last one. */
+        private static int placeOfRun(int places, int which) {
             int last = NONE;
-            for (int i = 0; i < size; i++) {
-                boolean isHere = isEnd ? endsRun(i, kind) : beginsRun(i, kind);
-                if (isHere) {
-                    last = isEnd ? i + 1 : i;
+            int seen = 0;
+            for (int i = 0; i < MOST; i++) {
+                if ((places >> i & 1) != 0) {
                     if (seen == which && which < 2) {
-                        return last;
+                        return i;
                     }
+                    last = i;
                     seen++;
                 }
             }
@@ -589,7 +589,7 @@ public final class PatchbayScript {
         private static int signsOf(int atom) {
             int found = 0;
             for (int i = 0; i < MOST_SIGNS; i++) {
-                if (signOf(atom, i) != 0) {
+                if ((atom >> 7 * i & 127) != 0) {
                     found++;
                 }
             }
@@ -626,17 +626,22 @@ public final class PatchbayScript {
             return spot % 3 == 1 ? 2 : 1;
         }
 
+        static int weightOfCut(int a, int b, int c) {
+            return 2 + weightOfSpot(a) + weightOfSpot(b) + (c == 0 ? 0 : 2);
+        }
+
+        static int weightOfEach(int b, int c) {
+            return 6 + (b == 0 ? 0 : 1) + (c == 0 ? 0 : 1);
+        }
+
         static int weightOf(int atom) {
-            int a = partOf(atom, 1);
-            int b = partOf(atom, 2);
-            int c = partOf(atom, 3);
             switch (kindOf(atom)) {
                 case CONST:
                     return 4 + 3 * signsOf(atom);
                 case CUT:
-                    return 2 + weightOfSpot(a) + weightOfSpot(b) + (c == 0 ? 0 : 2);
+                    return weightOfCut(partOf(atom, 1), partOf(atom, 2), partOf(atom, 3));
                 default:
-                    return 6 + (b == 0 ? 0 : 1) + (c == 0 ? 0 : 1);
+                    return weightOfEach(partOf(atom, 2), partOf(atom, 3));
             }
         }
 
@@ -650,19 +655,9 @@ public final class PatchbayScript {
             return kindOf(atom) == CONST ? signOf(atom, what - 1) : partOf(atom, what);
         }
 
-        /** Puts behind a text what the atom makes; false if it fails, or the text has no room. */
-        static boolean makes(int atom, Text from, Text to) {
-            switch (kindOf(atom)) {
-                case CONST:
-                    return makesConst(atom, to);
-                case CUT:
-                    return makesCut(atom, from, to);
-                default:
-                    return makesEach(atom, from, to);
-            }
-        }
+        // What an atom makes goes behind a text; they say false where the atom fails, or the text has no room.
 
-        private static boolean makesConst(int atom, Text to) {
+        static boolean makesConst(int atom, Text to) {
             int signs = signsOf(atom);
             for (int i = 0; i < signs; i++) {
                 if (!to.add(signOf(atom, i))) {
@@ -672,7 +667,7 @@ public final class PatchbayScript {
             return true;
         }
 
-        private static boolean makesCut(int atom, Text from, Text to) {
+        static boolean makesCut(int atom, Text from, Text to) {
             int begin = from.placeOfSpot(partOf(atom, 1));
             int end = from.placeOfSpot(partOf(atom, 2));
             int way = partOf(atom, 3);
@@ -687,25 +682,21 @@ public final class PatchbayScript {
             return true;
         }
 
-        private static boolean makesEach(int atom, Text from, Text to) {
-            int kind = partOf(atom, 1);
-            int part = partOf(atom, 2);
+        static boolean makesEach(int atom, Text from, Text to) {
+            int taken = from.placesOfRuns(partOf(atom, 1), partOf(atom, 2));
+            int begins = from.placesOfRuns(partOf(atom, 1), 1);
             int mark = partOf(atom, 3);
-            boolean any = false;
+            int first = begins & -begins;
             for (int i = 0; i < from.size; i++) {
-                if (!from.isOf(i, kind)) {
-                    continue;
-                }
-                if (any && mark != 0 && from.beginsRun(i, kind) && !to.add(Sign.markOf(mark))) {
+                int here = 1 << i;
+                if (mark != 0 && (begins & here & ~first) != 0 && !to.add(Sign.markOf(mark))) {
                     return false;
                 }
-                any = true;
-                boolean isTaken = part == 0 || (part == 1 ? from.beginsRun(i, kind) : from.endsRun(i, kind));
-                if (isTaken && !to.add(from.at(i))) {
+                if ((taken & here) != 0 && !to.add(from.at(i))) {
                     return false;
                 }
             }
-            return any;
+            return begins != 0;
         }
     }
 
@@ -739,12 +730,21 @@ public final class PatchbayScript {
         /** The text made must be another one than that of which it is made. */
         boolean makes(Text from, Text to) {
             to.clear();
-            for (int i = 0; i < size && i < PLACES; i++) {
-                if (!Atom.makes(atoms[i], from, to)) {
-                    return false;
+            boolean isMade = true;
+            for (int i = 0; i < size && i < PLACES && isMade; i++) {
+                switch (Atom.kindOf(atoms[i])) {
+                    case CONST:
+                        isMade = Atom.makesConst(atoms[i], to);
+                        break;
+                    case CUT:
+                        isMade = Atom.makesCut(atoms[i], from, to);
+                        break;
+                    default:
+                        isMade = Atom.makesEach(atoms[i], from, to);
+                        break;
                 }
             }
-            return true;
+            return isMade;
         }
     }
 
@@ -759,10 +759,10 @@ public final class PatchbayScript {
 
         static boolean holds(int condition, Text text) {
             if (condition < 12) {
-                return text.runsOf(condition / 3) > condition % 3;
+                return Integer.bitCount(text.placesOfRuns(condition / 3, 1)) > condition % 3;
             }
             if (condition < 16) {
-                return text.isOf(0, condition - 12);
+                return (text.placesOfRuns(condition - 12, 0) & 1) != 0;
             }
             return text.has(Sign.markOf(condition - 15));
         }
@@ -940,17 +940,6 @@ public final class PatchbayScript {
         }
     }
 
-    /** A run keeps what the task had learnt then, as the task may learn anew. */
-    private static final class Run {
-        final Learnt learnt = new Learnt();
-        boolean counts;
-
-        void begin(Learnt by) {
-            learnt.set(by);
-            counts = true;
-        }
-    }
-
     /** Learns tasks, and compares the programs that count for them. */
     private static final class Learner {
         private static final int SETS = 1 << Task.MOST;
@@ -986,18 +975,18 @@ public final class PatchbayScript {
             }
         }
 
-        void learnTask(Task task) {
-            findBest(task);
+        /** Says whether one program is learnt for all examples. */
+        boolean learnBest(Task task) {
             for (int i = 0; i < task.bestCount && i < Task.BEST; i++) {
                 if (task.bears(task.best[i], made)) {
                     task.learnt.setOne(task.best[i]);
-                    return;
+                    return true;
                 }
             }
-            learnParted(task);
+            return false;
         }
 
-        private void learnParted(Task task) {
+        void learnParted(Task task) {
             task.learnt.setNothing();
             finder.lookAt(task);
             for (int i = 0; i < SETS; i++) {
@@ -1116,7 +1105,7 @@ public final class PatchbayScript {
 
         private void lookAtEach(int each) {
             made.clear();
-            int places = Atom.makes(Atom.CUTS + each, was, made) ? -1 : 0;
+            int places = Atom.makesEach(Atom.CUTS + each, was, made) ? -1 : 0;
             for (int i = 0; i < made.size && places != 0; i++) {
                 places = narrowed(places, made.at(i), i);
             }
@@ -1124,8 +1113,20 @@ public final class PatchbayScript {
             eachSizes[each] = made.size;
         }
 
+        /** How many signs of a text from a place on stand here too, next to one another, up to so many. */
+        int sharedFrom(Text text, int place, int most) {
+            int places = -1;
+            for (int i = 0; i < most; i++) {
+                places = narrowed(places, text.at(place + i), i);
+                if (places == 0) {
+                    return i;
+                }
+            }
+            return most;
+        }
+
         /** Those of the places that have the sign so much behind them. */
-        int narrowed(int places, char sign, int behind) {
+        private int narrowed(int places, char sign, int behind) {
             return behind >= 0 && behind < Text.MOST ? places & placesOfSign[sign & 127] >> behind : 0;
         }
 
@@ -1150,54 +1151,199 @@ public final class PatchbayScript {
         }
     }
 
+    /** The atoms that may be used for a set of examples: those of which each text shown has what they make. */
+    private static final class Stock {
+        /** A CUT needs a place below another one, so that of two spots there is one at the most. */
+        private static final int MOST_ATOMS = Text.SPOTS * (Text.SPOTS - 1) / 2 * Atom.WAYS + Atom.EACHES;
+        private static final int MOST = Task.MOST;
+        private static final int ENDS = Text.MOST + 1;
+
+        final Board[] boards = new Board[MOST];
+        /** The examples of the set; what follows has a column for each. */
+        final Board[] members = new Board[MOST];
+        int memberCount;
+        /** The CUTs and EACHs, in their order. */
+        final int[] atoms = new int[MOST_ATOMS];
+        final int[] weights = new int[MOST_ATOMS];
+        final int[] places = new int[MOST_ATOMS * MOST];
+        final int[] sizes = new int[MOST_ATOMS * MOST];
+        int atomCount;
+        /** How many signs from a place of a text shown on also stand in all others, as far as CONSTs go. */
+        final int[] shared = new int[MOST * ENDS];
+        /** Atoms that make the same are a group: its first one, and its weights, above the least, as bits. */
+        final int[] groups = new int[MOST_ATOMS];
+        final int[] groupWeights = new int[MOST_ATOMS];
+        int groupCount;
+        /** By the size of what is made in the first column: the newest group, and from each group the next. */
+        private final int[] newest = new int[ENDS];
+        private final int[] older = new int[MOST_ATOMS];
+
+        Stock() {
+            for (int i = 0; i < MOST; i++) {
+                boards[i] = new Board();
+                members[i] = boards[i];
+            }
+        }
+
+        void gather(int set) {
+            memberCount = 0;
+            for (int i = 0; i < MOST; i++) {
+                if ((set >> i & 1) != 0) {
+                    members[memberCount] = boards[i];
+                    memberCount++;
+                }
+            }
+            atomCount = 0;
+            groupCount = 0;
+            for (int i = 0; i < ENDS; i++) {
+                newest[i] = NONE;
+            }
+            for (int first = 0; first < Text.SPOTS; first++) {
+                for (int second = 0; second < Text.SPOTS; second++) {
+                    gatherCuts(first, second);
+                }
+            }
+            for (int each = 0; each < Atom.EACHES && atomCount < MOST_ATOMS; each++) {
+                gatherEach(each, Atom.weightOfEach(each / Sign.MARKS % Atom.PARTS, each % Sign.MARKS));
+            }
+            gatherShared();
+        }
+
+        private void gatherCuts(int first, int second) {
+            for (int i = 0; i < memberCount; i++) {
+                if (!members[i].hasCut(first, second)) {
+                    return;
+                }
+            }
+            for (int way = 0; way < Atom.WAYS && atomCount < MOST_ATOMS; way++) {
+                boolean isUseful = true;
+                for (int i = 0; i < memberCount && isUseful; i++) {
+                    int standing = members[i].placesOfCut(first, second, way);
+                    places[atomCount * MOST + i] = standing;
+                    sizes[atomCount * MOST + i] = members[i].sizeOfCut(first, second);
+                    isUseful = standing != 0;
+                }
+                if (isUseful) {
+                    addAtom(Atom.cut(first, second, way), Atom.weightOfCut(first, second, way));
+                }
+            }
+        }
+
+        private void gatherEach(int each, int weight) {
+            for (int i = 0; i < memberCount; i++) {
+                int standing = members[i].placesOfEach(each);
+                if (standing == 0) {
+                    return;
+                }
+                places[atomCount * MOST + i] = standing;
+                sizes[atomCount * MOST + i] = members[i].sizeOfEach(each);
+            }
+            addAtom(Atom.CUTS + each, weight);
+        }
+
+        /** What the atom makes stands in its row already. */
+        private void addAtom(int atom, int weight) {
+            atoms[atomCount] = atom;
+            weights[atomCount] = weight;
+            int size = Math.min(sizes[atomCount * MOST], Text.MOST);
+            int group = newest[size];
+            for (int n = 0; n < groupCount && group != NONE && !isLike(groups[group]); n++) {
+                group = older[group];
+            }
+            if (group == NONE) {
+                group = groupCount;
+                groupCount++;
+                groups[group] = atomCount;
+                groupWeights[group] = 0;
+                older[group] = newest[size];
+                newest[size] = group;
+            }
+            groupWeights[group] |= 1 << weight - Atom.LEAST_WEIGHT;
+            atomCount++;
+        }
+
+        /** Whether the atom that is being added makes what another one makes: as much, at the same places. */
+        private boolean isLike(int other) {
+            for (int i = 0; i < memberCount; i++) {
+                int mine = atomCount * MOST + i;
+                int others = other * MOST + i;
+                if (sizes[mine] != sizes[others] || places[mine] != places[others]) {
+                    return false;
+                }
+            }
+            return true;
+        }
+
+        private void gatherShared() {
+            for (int i = 0; i < memberCount; i++) {
+                Text text = members[i].shown;
+                for (int place = 0; place <= text.size; place++) {
+                    int least = Math.min(Atom.MOST_SIGNS, text.size - place);
+                    for (int j = 0; j < memberCount; j++) {
+                        least = members[j].sharedFrom(text, place, least);
+                    }
+                    shared[i * ENDS + place] = least;
+                }
+            }
+        }
+
+        int indexOf(int atom) {
+            for (int i = 0; i < atomCount; i++) {
+                if (atoms[i] == atom) {
+                    return i;
+                }
+            }
+            return NONE;
+        }
+    }
+
     /**
      * Finds the programs that count for a set of examples. It asks for programs by weight, of these by how many
      * atoms, of these by their atoms in order, so that those it finds come in the order that is due, and the
-     * fifth one ends it. A walk along the atoms goes on only where each example for itself still could be
-     * ended with just the atoms and the weight that are left: that is told ahead, from the ends.
+     * fifth one ends it. A walk along the atoms goes only where it can be ended with just the atoms and the
+     * weight that are left.
      */
     private static final class Finder {
         private static final int ENDS = Text.MOST + 1;
         private static final int MOST = Task.MOST;
-        /** A CUT needs a place below another one, so that of two spots there is one at the most. */
-        private static final int MOST_ATOMS = Text.SPOTS * (Text.SPOTS - 1) / 2 * Atom.WAYS + Atom.EACHES;
         private static final int LAYERS = 1 + PLACES * (PLACES + 1) / 2;
         private static final int MOST_SUM = PLACES * Atom.MOST_WEIGHT;
+        private static final int MOST_ABOVE = MOST_SUM - PLACES * Atom.LEAST_WEIGHT;
+        private static final int KNOWN_BITS = 11;
 
         final Program[] found = new Program[Task.BEST];
         int foundCount;
 
-        private final Board[] boards = new Board[MOST];
+        private final Stock stock = new Stock();
+        /** Whose examples are on the boards, and how many: they never change, and none goes. */
+        private Task lookedAt;
+        private int boardCount;
         private final int[] pins = new int[PLACES];
+        private final int[] pinIndexes = new int[PLACES];
         private boolean isPinned;
-        /** The examples of the set, by their numbers; what follows has a column for each. */
-        private final int[] members = new int[MOST];
-        private int memberCount;
-        /** The CUTs and EACHs that stand somewhere in each text shown, in order. */
-        private final int[] atoms = new int[MOST_ATOMS];
-        private final int[] weights = new int[MOST_ATOMS];
-        private final int[] places = new int[MOST_ATOMS * MOST];
-        private final int[] sizes = new int[MOST_ATOMS * MOST];
-        private int atomCount;
-        /** How many signs from a place of a text shown also stand in all others. */
-        private final int[] shared = new int[MOST * ENDS];
-        /** By layer, column and place: the weights, above the least, with which it can be ended, as bits. */
+        /** By layer, column and place: the weights, above the least, that end this example alone, as bits. */
         private final long[] ways = new long[LAYERS * MOST * ENDS];
+        /** What was found to end all examples; a newer one may take its row, and is then found anew. */
+        private final long[] knownKeys = new long[1 << KNOWN_BITS];
+        private final long[] knownEndings = new long[1 << KNOWN_BITS];
+        private long searches;
+        /** By place of the program and column: where the text shown is, ahead of this place. */
         private final int[] at = new int[(PLACES + 1) * MOST];
         private final int[] row = new int[PLACES];
 
         Finder() {
-            for (int i = 0; i < MOST; i++) {
-                boards[i] = new Board();
-            }
             for (int i = 0; i < Task.BEST; i++) {
                 found[i] = new Program();
             }
         }
 
         void lookAt(Task task) {
-            for (int i = 0; i < task.examples && i < MOST; i++) {
-                boards[i].lookAt(task.was[i], task.shown[i]);
+            if (lookedAt != task) {
+                lookedAt = task;
+                boardCount = 0;
+            }
+            for (; boardCount < task.examples && boardCount < MOST; boardCount++) {
+                stock.boards[boardCount].lookAt(task.was[boardCount], task.shown[boardCount]);
             }
             isPinned = false;
             for (int i = 0; i < PLACES; i++) {
@@ -1207,122 +1353,21 @@ public final class PatchbayScript {
         }
 
         void find(int set) {
-            foundCount = 0;
-            memberCount = 0;
-            for (int i = 0; i < MOST; i++) {
-                if ((set >> i & 1) != 0) {
-                    members[memberCount] = i;
-                    at[memberCount] = 0;
-                    memberCount++;
-                }
+            stock.gather(set);
+            for (int i = 0; i < PLACES; i++) {
+                pinIndexes[i] = stock.indexOf(pins[i]);
             }
-            gatherAtoms();
-            gatherShared();
             gatherWays();
+            searches++;
+            foundCount = 0;
             for (int sum = Atom.LEAST_WEIGHT; sum <= MOST_SUM && foundCount < Task.BEST; sum++) {
                 for (int size = 1; size <= PLACES && foundCount < Task.BEST; size++) {
-                    if (canEnd(size, 0, sum)) {
-                        walk(size, 0, sum);
-                    }
+                    walk(size, 0, sum);
                 }
             }
         }
 
-        private Board board(int column) {
-            int number = column >= 0 && column < MOST ? members[column] : 0;
-            return boards[number];
-        }
-
-        // ---- the atoms that may be used
-
-        private void gatherAtoms() {
-            atomCount = 0;
-            for (int first = 0; first < Text.SPOTS; first++) {
-                for (int second = 0; second < Text.SPOTS; second++) {
-                    if (allHaveCut(first, second)) {
-                        for (int way = 0; way < Atom.WAYS; way++) {
-                            gatherCut(first, second, way);
-                        }
-                    }
-                }
-            }
-            for (int each = 0; each < Atom.EACHES; each++) {
-                gatherEach(each);
-            }
-        }
-
-        private boolean allHaveCut(int first, int second) {
-            for (int i = 0; i < memberCount; i++) {
-                if (!board(i).hasCut(first, second)) {
-                    return false;
-                }
-            }
-            return true;
-        }
-
-        private void gatherCut(int first, int second, int way) {
-            if (atomCount >= MOST_ATOMS) {
-                return;
-            }
-            for (int i = 0; i < memberCount; i++) {
-                int standing = board(i).placesOfCut(first, second, way);
-                if (standing == 0) {
-                    return;
-                }
-                places[atomCount * MOST + i] = standing;
-                sizes[atomCount * MOST + i] = board(i).sizeOfCut(first, second);
-            }
-            addAtom(Atom.cut(first, second, way));
-        }
-
-        private void gatherEach(int each) {
-            if (atomCount >= MOST_ATOMS) {
-                return;
-            }
-            for (int i = 0; i < memberCount; i++) {
-                int standing = board(i).placesOfEach(each);
-                if (standing == 0) {
-                    return;
-                }
-                places[atomCount * MOST + i] = standing;
-                sizes[atomCount * MOST + i] = board(i).sizeOfEach(each);
-            }
-            addAtom(Atom.CUTS + each);
-        }
-
-        private void addAtom(int atom) {
-            if (atomCount < MOST_ATOMS) {
-                atoms[atomCount] = atom;
-                weights[atomCount] = Atom.weightOf(atom);
-                atomCount++;
-            }
-        }
-
-        private void gatherShared() {
-            for (int i = 0; i < memberCount; i++) {
-                Text text = board(i).shown;
-                for (int place = 0; place <= text.size; place++) {
-                    int least = Math.min(Atom.MOST_SIGNS, text.size - place);
-                    for (int j = 0; j < memberCount; j++) {
-                        least = Math.min(least, sharedWith(board(j), text, place, least));
-                    }
-                    shared[i * ENDS + place] = least;
-                }
-            }
-        }
-
-        private static int sharedWith(Board other, Text text, int place, int most) {
-            int standing = -1;
-            for (int i = 0; i < most; i++) {
-                standing = other.narrowed(standing, text.at(place + i), i);
-                if (standing == 0) {
-                    return i;
-                }
-            }
-            return most;
-        }
-
-        // ---- with what weights each example could be ended
+        // ---- with what weights each example alone can be ended
 
         /** Without pins, all programs with as many atoms left are alike; with pins, their places matter. */
         private int layerOf(int size, int place) {
@@ -1333,39 +1378,42 @@ public final class PatchbayScript {
         }
 
         private void gatherWays() {
-            for (int i = 0; i < memberCount; i++) {
+            for (int i = 0; i < stock.memberCount; i++) {
+                at[i] = 0;
                 for (int place = 0; place < ENDS; place++) {
-                    ways[i * ENDS + place] = place == board(i).shown.size ? 1L : 0L;
+                    ways[i * ENDS + place] = place == stock.members[i].shown.size ? 1L : 0L;
                 }
             }
             for (int size = 1; size <= PLACES; size++) {
                 for (int place = isPinned ? size - 1 : 0; place >= 0; place--) {
-                    gatherLayer(layerOf(size, place), layerOf(size, place + 1), pins[place]);
+                    gatherLayer(layerOf(size, place), layerOf(size, place + 1), place);
                 }
             }
         }
 
-        private void gatherLayer(int layer, int next, int pin) {
-            for (int i = 0; i < memberCount; i++) {
+        private void gatherLayer(int layer, int next, int place) {
+            for (int i = 0; i < stock.memberCount; i++) {
                 int here = (layer * MOST + i) * ENDS;
                 int then = (next * MOST + i) * ENDS;
-                for (int place = 0; place < ENDS; place++) {
-                    ways[here + place] = 0;
+                for (int from = 0; from < ENDS; from++) {
+                    ways[here + from] = 0;
                 }
-                gatherConstWays(i, here, then, pin);
-                for (int atom = 0; atom < atomCount; atom++) {
-                    if (pin == NONE || pin == atoms[atom]) {
-                        gatherAtomWays(atom, i, here, then);
-                    }
+                gatherConstWays(i, here, then, pins[place]);
+                if (pinIndexes[place] != NONE) {
+                    int weights = 1 << stock.weights[pinIndexes[place]] - Atom.LEAST_WEIGHT;
+                    gatherAtomWays(pinIndexes[place] * MOST + i, weights, here, then);
+                }
+                for (int group = 0; group < stock.groupCount && pins[place] == NONE; group++) {
+                    gatherAtomWays(stock.groups[group] * MOST + i, stock.groupWeights[group], here, then);
                 }
             }
         }
 
         private void gatherConstWays(int column, int here, int then, int pin) {
-            Text text = board(column).shown;
+            Text text = stock.members[column].shown;
             for (int place = 0; place < text.size; place++) {
                 int atom = 0;
-                for (int n = 1; n <= shared[column * ENDS + place]; n++) {
+                for (int n = 1; n <= stock.shared[column * ENDS + place]; n++) {
                     atom = Atom.withSign(atom, n - 1, text.at(place + n - 1));
                     if (pin == NONE || pin == atom) {
                         ways[here + place] |= ways[then + place + n] << 3 * n;
@@ -1374,44 +1422,101 @@ public final class PatchbayScript {
             }
         }
 
-        private void gatherAtomWays(int atom, int column, int here, int then) {
-            int left = places[atom * MOST + column];
-            int size = sizes[atom * MOST + column];
-            int above = weights[atom] - Atom.LEAST_WEIGHT;
+        private void gatherAtomWays(int cell, int weights, int here, int then) {
+            int left = stock.places[cell];
+            int size = stock.sizes[cell];
             for (int n = Integer.bitCount(left); n > 0; n--) {
                 int lowest = left & -left;
                 int place = Integer.bitCount(lowest - 1);
                 left -= lowest;
-                ways[here + place] |= ways[then + place + size] << above;
+                ways[here + place] |= heavier(ways[then + place + size], weights);
             }
         }
 
-        /** Whether each example could be ended from where it stands, by the atoms from a place on. */
-        private boolean canEnd(int size, int place, int rest) {
-            int above = rest - (size - place) * Atom.LEAST_WEIGHT;
-            if (above < 0 || above > MOST_SUM - Atom.LEAST_WEIGHT) {
-                return false;
-            }
-            int layer = layerOf(size, place) * MOST;
-            for (int i = 0; i < memberCount; i++) {
-                if ((ways[(layer + i) * ENDS + at[place * MOST + i]] >> above & 1) == 0) {
-                    return false;
+        private static long heavier(long endings, int weights) {
+            long all = 0;
+            for (int above = 0; endings != 0 && above <= Atom.MOST_WEIGHT - Atom.LEAST_WEIGHT; above++) {
+                if ((weights >> above & 1) != 0) {
+                    all |= endings << above;
                 }
             }
-            return true;
+            return all;
+        }
+
+        // ---- with what weights all examples together can be ended
+
+        /** The weights, above the least, by which it ends from where it stands; at least those that are wanted. */
+        private long endings(int size, int place, long wanted) {
+            int layer = layerOf(size, place);
+            long most = -1L;
+            long key = searches * LAYERS + layer;
+            for (int i = 0; i < stock.memberCount; i++) {
+                int from = at[place * MOST + i];
+                most &= ways[(layer * MOST + i) * ENDS + from];
+                key = key * ENDS + from;
+            }
+            if ((most & wanted) == 0 || stock.memberCount == 1 || place >= size || place >= PLACES) {
+                return most & wanted;
+            }
+            int slot = (int) (key * 0x9E3779B97F4A7C15L >>> 64 - KNOWN_BITS);
+            if (knownKeys[slot] != key) {
+                long ending = constEndings(size, place) | atomEndings(size, place, most);
+                knownKeys[slot] = key;
+                knownEndings[slot] = ending;
+            }
+            return knownEndings[slot];
+        }
+
+        private long constEndings(int size, int place) {
+            long all = 0;
+            int atom = 0;
+            for (int n = 1; n <= Atom.MOST_SIGNS; n++) {
+                char sign = stepOverSign(place, n);
+                if (sign == 0) {
+                    break;
+                }
+                atom = Atom.withSign(atom, n - 1, sign);
+                if (pins[place] == NONE || pins[place] == atom) {
+                    all |= endings(size, place + 1, -1L) << 3 * n;
+                }
+            }
+            return all;
+        }
+
+        private long atomEndings(int size, int place, long most) {
+            long all = 0;
+            int pin = pinIndexes[place];
+            if (pin != NONE && stepsOver(pin, place)) {
+                return endings(size, place + 1, -1L) << stock.weights[pin] - Atom.LEAST_WEIGHT;
+            }
+            for (int i = 0; i < stock.groupCount && pins[place] == NONE && all != most; i++) {
+                if (stepsOver(stock.groups[i], place)) {
+                    all |= heavier(endings(size, place + 1, -1L), stock.groupWeights[i]);
+                }
+            }
+            return all;
         }
 
         // ---- the walk along the atoms
 
         private void walk(int size, int place, int rest) {
-            if (place < 0 || place >= PLACES) {
+            int above = rest - (size - place) * Atom.LEAST_WEIGHT;
+            if (foundCount >= Task.BEST || above < 0 || above > MOST_ABOVE) {
+                return;
+            }
+            if ((endings(size, place, 1L << above) >> above & 1) == 0) {
+                return;
+            }
+            if (place >= size || place >= PLACES) {
+                found[foundCount].setRow(row, size);
+                foundCount++;
                 return;
             }
             walkConsts(size, place, rest);
-            int pin = pins[place];
-            for (int i = 0; i < atomCount && foundCount < Task.BEST; i++) {
-                if ((pin == NONE || pin == atoms[i]) && stepsOver(i, place)) {
-                    goOn(size, place, rest - weights[i], atoms[i]);
+            for (int i = 0; i < stock.atomCount && foundCount < Task.BEST; i++) {
+                if ((pins[place] == NONE || pins[place] == stock.atoms[i]) && stepsOver(i, place)) {
+                    row[place] = stock.atoms[i];
+                    walk(size, place + 1, rest - stock.weights[i]);
                 }
             }
         }
@@ -1419,44 +1524,41 @@ public final class PatchbayScript {
         private void walkConsts(int size, int place, int rest) {
             int atom = 0;
             for (int n = 1; n <= Atom.MOST_SIGNS && foundCount < Task.BEST; n++) {
-                char sign = board(0).shown.at(at[place * MOST] + n - 1);
-                for (int i = 0; i < memberCount; i++) {
-                    int from = at[place * MOST + i];
-                    if (sign == 0 || board(i).shown.at(from + n - 1) != sign) {
-                        return;
-                    }
-                    at[(place + 1) * MOST + i] = from + n;
+                char sign = stepOverSign(place, n);
+                if (sign == 0) {
+                    return;
                 }
                 atom = Atom.withSign(atom, n - 1, sign);
                 if (pins[place] == NONE || pins[place] == atom) {
-                    goOn(size, place, rest - Atom.weightOf(atom), atom);
+                    row[place] = atom;
+                    walk(size, place + 1, rest - Atom.weightOf(atom));
                 }
             }
         }
 
-        /** Whether the atom stands in all texts shown where they are; then it tells where they are behind it. */
-        private boolean stepsOver(int atom, int place) {
-            for (int i = 0; i < memberCount; i++) {
+        /** The nth sign from where all are, if it is the same in all, and then they are behind it; 0 if not. */
+        private char stepOverSign(int place, int n) {
+            char sign = stock.members[0].shown.at(at[place * MOST] + n - 1);
+            for (int i = 0; i < stock.memberCount; i++) {
                 int from = at[place * MOST + i];
-                if ((places[atom * MOST + i] >> from & 1) == 0) {
+                if (stock.members[i].shown.at(from + n - 1) != sign) {
+                    return 0;
+                }
+                at[(place + 1) * MOST + i] = from + n;
+            }
+            return sign;
+        }
+
+        /** Whether what the atom makes stands where all are, and then they are behind it. */
+        private boolean stepsOver(int index, int place) {
+            for (int i = 0; i < stock.memberCount; i++) {
+                int from = at[place * MOST + i];
+                if ((stock.places[index * MOST + i] >> from & 1) == 0) {
                     return false;
                 }
-                at[(place + 1) * MOST + i] = from + sizes[atom * MOST + i];
+                at[(place + 1) * MOST + i] = from + stock.sizes[index * MOST + i];
             }
             return true;
-        }
-
-        private void goOn(int size, int place, int rest, int atom) {
-            if (!canEnd(size, place + 1, rest)) {
-                return;
-            }
-            row[place] = atom;
-            if (place + 1 < size) {
-                walk(size, place + 1, rest);
-            } else if (foundCount < Task.BEST) {
-                found[foundCount].setRow(row, size);
-                foundCount++;
-            }
         }
     }
 }
