@@ -60,6 +60,8 @@ public final class Promise10Learn {
 
     private static void ways() {
         one("ada k", "ADA", 6, "1 12 15 1 6");
+        one("azza k", "AZZA", 6, "1 12 15 1 6");
+        one("AZZA k", "azza", 6, "1 12 15 2 6");
         one("ADA k", "ada", 6, "1 12 15 2 6");
         one("aDA k", "Ada", 6, "1 12 15 3 6");
         one("1a, 2", "1A,", 6, "1 6 27 1 6");
@@ -88,6 +90,10 @@ public final class Promise10Learn {
         String told = "'" + first + "' and '" + second + "'";
         Due.is("learn of " + told, script.learn(0), weight);
         Due.is("the condition of " + told, script.condition(0), condition);
+        if (weight == 14) {
+            Due.is("of the first, where it holds, " + told, Due.atom(script, 0, false, 0), "0 120 0 0 7");
+            Due.is("of the second one, where it does not, " + told, Due.atom(script, 0, true, 0), "0 121 0 0 7");
+        }
     }
 
     private static void parts() {
@@ -103,7 +109,7 @@ public final class Promise10Learn {
         parted("- -", "x", "-", "y", 14, 10);
         parted("- - -", "x", "- -", "y", 14, 11);
         parted("1 a", "x", "a 1", "y", 14, 12);
-        parted("a-1", "x", "1-a", "y", 14, 12);
+        parted("1-a", "x", "a-1", "y", 14, 12);
         parted("a-1", "x", "-a1", "y", 14, 1 + 12);
         parted("A-a", "x", "a-A", "y", 14, 14);
         parted("-a ", "x", " -a", "y", 14, 15);

@@ -3,6 +3,7 @@ public final class Promise16Preview {
     public static void main(String[] args) {
         wrongCalls();
         signs();
+        atoms();
         tooLong();
         parted();
         Due.end();
@@ -40,6 +41,34 @@ public final class Promise16Preview {
         Due.is("of the line that was shown, as it is now", Due.preview(script, 0, 0), "A A.");
         Due.is("of another task", script.preview(1, 1, 0), '?');
         Due.is("the line stays", Due.text(script, 1), "Bob Cox");
+    }
+
+    private static void atom(String text, String shown, String other, String made) {
+        PatchbayScript script = new PatchbayScript();
+        Due.line(script, text);
+        Due.line(script, other);
+        Due.show(script, 0, 0, shown);
+        script.learn(0);
+        Due.is("what is learnt by '" + text + "' to '" + shown + "', of '" + other + "'",
+                Due.preview(script, 0, 1), made);
+    }
+
+    private static void atoms() {
+        atom("ada k", "ADA", "azB k", "AZB");
+        atom("ADA k", "ada", "AZb k", "azb");
+        atom("aDA k", "Ada", "zAZ k", "Zaz");
+        atom("-aDA- .", "-ada- .", "-X.Yy, .Q", "-x.yy, .q");
+        atom("ab cd ef", "abcdef", "gh.ij", "ghij");
+        atom("ab cd ef", "ace", "gh", "g");
+        atom("ab cd ef", "bdf", "gh.ij-kl mn", "hjln");
+        atom("1a2b3", "1 2 3", "44 5-6", "44 5 6");
+        atom("1a2b3", "1,2,3", "44 5-6", "44,5,6");
+        atom("1a2b3", "1.2.3", "44 5-6", "44.5.6");
+        atom("1a2b3", "1-2-3", "44 5-6", "44-5-6");
+        atom("1a2b3", "1/2/3", "44 5-6", "44/5/6");
+        atom("1a2b3", "1/2/3", "4", "4");
+        atom("1a2b3", "1/2/3", "", "?");
+        atom("", "yes", "no", "yes");
     }
 
     /** A text of ten signs is put twice; eleven would make 22. */
