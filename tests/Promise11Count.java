@@ -22,6 +22,7 @@ public final class Promise11Count {
         Due.is("none makes both: of the texts as they were, not as they are", script.count(0), 0);
         many();
         asItIsNow();
+        withAPin();
         Due.end();
     }
 
@@ -57,5 +58,17 @@ public final class Promise11Count {
         Due.is("and are of two examples", script.count(0), 2);
         script.pin(0, 0, PatchbayScript.EACH, 0, 0, 0);
         Due.is("what is learnt does not matter", script.count(0), 0);
+    }
+
+    private static void withAPin() {
+        PatchbayScript script = new PatchbayScript();
+        String[] texts = {"0", "bcda", "cdab"};
+        for (int line = 0; line < 3; line++) {
+            Due.line(script, texts[line]);
+            Due.show(script, 2, line, "abcd");
+        }
+        script.type('a');
+        script.pin(2, 0, PatchbayScript.CONST, 0, 0, 0);
+        Due.is("four begin with the pinned sign", script.count(2), 4);
     }
 }

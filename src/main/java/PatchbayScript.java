@@ -1449,15 +1449,13 @@ public final class PatchbayScript {
         private long endings(int size, int place, long wanted) {
             int layer = layerOf(size, place);
             long most = -1L;
-            long key = searches * LAYERS + layer;
             for (int i = 0; i < stock.memberCount; i++) {
-                int from = at[place * MOST + i];
-                most &= ways[(layer * MOST + i) * ENDS + from];
-                key = key * ENDS + from;
+                most &= ways[(layer * MOST + i) * ENDS + at[place * MOST + i]];
             }
             if ((most & wanted) == 0 || stock.memberCount == 1 || place >= size || place >= PLACES) {
                 return most & wanted;
             }
+            long key = keyOf(layer, place);
             int slot = (int) (key * 0x9E3779B97F4A7C15L >>> 64 - KNOWN_BITS);
             if (knownKeys[slot] != key) {
                 long ending = constEndings(size, place) | atomEndings(size, place, most);
@@ -1465,6 +1463,18 @@ public final class PatchbayScript {
                 knownEndings[slot] = ending;
             }
             return knownEndings[slot];
+        }
+
+        /**
+         * A key has all columns, also those that this search has not: with fewer of them for fewer examples, a
+         * search would meet what an older one had found for more examples.
+         */
+        private long keyOf(int layer, int place) {
+            long key = searches * LAYERS + layer;
+            for (int i = 0; i < MOST; i++) {
+                key = key * ENDS + (i < stock.memberCount ? at[place * MOST + i] : 0);
+            }
+            return key;
         }
 
         private long constEndings(int size, int place) {
