@@ -1,6 +1,7 @@
 /** What the tests share: answers compared with those that are due, and calls in plain words. */
 final class Due {
     private static int wrong = 0;
+    private static String sentence = "";
 
     interface Call {
         long answer();
@@ -9,10 +10,22 @@ final class Due {
     private Due() {
     }
 
+    /** Names the sentence of the document that the checks behind it are for: its promise or heading, its words. */
+    static void sentence(String where, String words) {
+        sentence = where + ", \"" + words + "\": ";
+        if (!Document.has(where, words)) {
+            tell("the document has no such words there");
+        }
+    }
+
+    private static void tell(String fault) {
+        wrong++;
+        System.out.println(sentence + fault);
+    }
+
     static void is(String what, long got, long want) {
         if (got != want) {
-            wrong++;
-            System.out.println(what + " answered " + got + ", due is " + want);
+            tell(what + " answered " + got + ", due is " + want);
         }
     }
 
@@ -22,8 +35,7 @@ final class Due {
 
     static void is(String what, String got, String want) {
         if (!got.equals(want)) {
-            wrong++;
-            System.out.println(what + " answered '" + got + "', due is '" + want + "'");
+            tell(what + " answered '" + got + "', due is '" + want + "'");
         }
     }
 
@@ -38,8 +50,7 @@ final class Due {
             }
             got = "threw " + e.getClass().getSimpleName();
         }
-        wrong++;
-        System.out.println(what + " " + got + ", due is " + want.getSimpleName());
+        tell(what + " " + got + ", due is " + want.getSimpleName());
     }
 
     static void failsIndex(String what, Call call) {
@@ -72,7 +83,8 @@ final class Due {
 
     static String text(PatchbayScript script, int line) {
         StringBuilder text = new StringBuilder();
-        for (int i = 0; i < script.length(line); i++) {
+        int length = script.length(line);
+        for (int i = 0; i < length; i++) {
             text.append(script.signAt(line, i));
         }
         return text.toString();
@@ -81,13 +93,12 @@ final class Due {
     /** What a task would make of a line, or "?". */
     static String preview(PatchbayScript script, int task, int line) {
         StringBuilder text = new StringBuilder();
-        for (int i = 0; script.preview(task, line, i) != '!'; i++) {
-            text.append(script.preview(task, line, i));
-            if (text.toString().equals("?")) {
-                break;
-            }
+        char sign = script.preview(task, line, 0);
+        while (sign != '!' && sign != '?') {
+            text.append(sign);
+            sign = script.preview(task, line, text.length());
         }
-        return text.toString();
+        return sign == '?' ? "?" : text.toString();
     }
 
     /** An atom of what a task has learnt: its kind, its numbers a, b, c, its weight. */
