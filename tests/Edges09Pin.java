@@ -14,8 +14,10 @@ public final class Edges09Pin {
         othersLeaveTheDraft();
         howMany();
         firstAndLastTaskAndPlace();
+        firstAndLastKind();
         outermostCuts();
         outermostEaches();
+        lastWayAndMark();
         whatDoesNotMatter();
         noSuchTask();
         noSuchPlace();
@@ -113,6 +115,16 @@ public final class Edges09Pin {
         Due.is("the one that has it", script.weight(2, 3), 28);
     }
 
+    private static void firstAndLastKind() {
+        Due.sentence(PROMISE, "`kind`: CONST to EACH, or NONE to pin none");
+        PatchbayScript script = new PatchbayScript();
+        Due.is("the kind 2", script.pin(0, 0, 2, 0, 0, 0), 1);
+        Due.is("the kind 1", script.pin(0, 1, 1, 0, 0, 0), 2);
+        script.type('a');
+        Due.is("the kind 0", script.pin(0, 2, 0, 0, 0, 0), 3);
+        Due.is("the kind -1", script.pin(0, 0, -1, 0, 0, 0), 2);
+    }
+
     private static void outermostCuts() {
         Due.sentence(PROMISE, "`a`: the first spot of a CUT (0 to 29), the class of an EACH (0 to 3); for others it does not"
                 + " matter, here and below");
@@ -140,6 +152,17 @@ public final class Edges09Pin {
         Due.is("learn", learnt.learn(0), 8);
         Due.is("its atom", Due.atom(learnt, 0, false, 0), "2 3 2 5 8");
         Due.is("the first EACH", Due.atom(Stories.pinned(EACH, 0, 0, 0, "1a2", "12"), 0, false, 0), "2 0 0 0 6");
+    }
+
+    private static void lastWayAndMark() {
+        Due.sentence(PROMISE, "`c`: the way of a CUT (0 to 3), the mark of an EACH (0 to 5)");
+        PatchbayScript script = new PatchbayScript();
+        Due.failsArgument("a CUT by the way 4", () -> script.pin(0, 0, CUT, 0, 3, 4));
+        Due.failsArgument("a CUT by the way 5, as if it were a mark", () -> script.pin(0, 0, CUT, 0, 3, 5));
+        Due.failsArgument("an EACH of the class 4, as if it were a spot", () -> script.pin(0, 0, EACH, 4, 0, 0));
+        Due.failsArgument("an EACH of the part 3, as if it were a spot", () -> script.pin(0, 0, EACH, 0, 3, 0));
+        Due.is("a CUT by the way 3", script.pin(0, 0, CUT, 0, 3, 3), 1);
+        Due.is("an EACH with the mark 5", script.pin(0, 0, EACH, 0, 0, 5), 1);
     }
 
     private static void whatDoesNotMatter() {

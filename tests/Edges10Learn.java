@@ -13,6 +13,7 @@ public final class Edges10Learn {
         again();
         noSuchTask();
         noExamples();
+        noExamplesButAPin();
         severalExceptions();
         Due.end();
     }
@@ -129,9 +130,20 @@ public final class Edges10Learn {
                 Due.show(script, (task + 1) % 3, 0, "cd");
                 script.learn((task + 1) % 3);
                 script.pin(task, 0, PatchbayScript.CUT, 0, 3, 0);
+                script.pin(task, 2, PatchbayScript.CUT, 0, 3, 0);
             }, script -> script.learn(task));
         }
         Due.failsState("learn(0) of a new object", () -> new PatchbayScript().learn(0));
+    }
+
+    private static void noExamplesButAPin() {
+        Due.sentence("Terms", "A call that throws an exception changes nothing");
+        PatchbayScript script = new PatchbayScript();
+        Due.line(script, "ab");
+        script.pin(0, 0, PatchbayScript.CUT, 0, 3, 0);
+        Due.failsState("learn without examples", () -> script.learn(0));
+        Due.show(script, 0, 0, "ab");
+        Due.is("learn by the pin", script.learn(0), 8);
     }
 
     private static void severalExceptions() {

@@ -12,8 +12,10 @@ public final class Edges13Question {
         onlyOneCounts();
         lowestLine();
         firstAndLastLine();
+        linesThatAreNotThere();
         unlikeTexts();
         oneFails();
+        allFail();
         theLastOfFive();
         bothFit();
         examplesLeftOut();
@@ -75,6 +77,23 @@ public final class Edges13Question {
         Due.is("the last line", script.question(0), 7);
     }
 
+    /** Of an empty text, and of one without letters, a CONST makes what a CUT and a CONST do not. */
+    private static void linesThatAreNotThere() {
+        Due.sentence(PROMISE, RETURNS);
+        PatchbayScript script = new PatchbayScript();
+        Due.line(script, "a");
+        script.type('a');
+        script.pin(0, 1, CONST, 0, 0, 0);
+        Due.show(script, 0, 0, "aa");
+        for (int line = 1; line < 8; line++) {
+            Due.is("a question with " + line + " lines", script.question(0), NONE);
+            Due.line(script, "a");
+        }
+        Due.is("a question with 8 lines", script.question(0), NONE);
+        Due.show(script, 1, 7, "-");
+        Due.is("and one without letters", script.question(0), 7);
+    }
+
     /** By the first and the last letters, and all from the first to the last ones. */
     private static void unlikeTexts() {
         Due.sentence(PROMISE, RETURNS);
@@ -100,6 +119,17 @@ public final class Edges13Question {
         PatchbayScript other = Stories.learnt("a1", "1", "b", "", "c-");
         Due.is("five count", other.count(0), 5);
         Due.is("where all five fail, none makes what another one does not", other.question(0), NONE);
+    }
+
+    /** Four go beyond 20 signs at the second atom, and the fifth has nothing there; all five fail. */
+    private static void allFail() {
+        Due.sentence(PROMISE, RETURNS);
+        PatchbayScript script = Stories.learnt("ab", "abab", "abcdefghijk lmnopqrs", "");
+        Due.is("five count", script.count(0), 5);
+        script.pin(0, 1, PatchbayScript.CUT, 14, 15, 0);
+        Due.is("the fifth one", script.weight(0, 0), 8);
+        script.pin(0, 1, NONE, 0, 0, 0);
+        Due.is("a question", script.question(0), NONE);
     }
 
     /** Between digits: as it is, in two ways, and by the ways 1, 2, 3; on ".aB." the last two make the same. */

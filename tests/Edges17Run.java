@@ -9,7 +9,8 @@ public final class Edges17Run {
 
     public static void main(String[] args) {
         howManyLines();
-        fromTo();
+        from();
+        to();
         firstAndLastWay();
         firstAndLastTask();
         noSuchTask();
@@ -52,7 +53,17 @@ public final class Edges17Run {
         Due.is("a line that was x by then is a step too", last.run(2, 0, 7, SKIP), 7);
     }
 
-    private static void fromTo() {
+    private static void from() {
+        Due.sentence(PROMISE, "`from`: a line");
+        for (int from = 0; from < 8; from++) {
+            PatchbayScript script = eight();
+            Due.is("from " + from + " to the last line", script.run(0, from, 7, STOP), Math.min(7, 8 - from));
+            Due.is("the lines then", all(script), "xbcdefgh".substring(0, Math.max(1, from))
+                    + "xxxxxxx".substring(Math.max(0, from - 1)));
+        }
+    }
+
+    private static void to() {
         Due.sentence(PROMISE, "`to`: a line, not below from");
         PatchbayScript script = eight();
         script.run(0, 1, 1, STOP);

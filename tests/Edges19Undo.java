@@ -7,6 +7,7 @@ public final class Edges19Undo {
         whetherItCounts();
         firstAndLastRun();
         oneAmongOthers();
+        onAllLines();
         onManyLines();
         onNoLine();
         changesNothingElse();
@@ -62,6 +63,27 @@ public final class Edges19Undo {
             counting += counts[run] ? 1 : -1;
             Due.is("undo the run " + run, script.undo(run), counts[run]);
             Due.is(counting + " runs", Due.text(script, 1), counting % 2 == 0 ? "e f" : "f e");
+        }
+    }
+
+    private static void onAllLines() {
+        Due.sentence(PROMISE, "Undoes a run, or does it again.");
+        PatchbayScript script = new PatchbayScript();
+        for (int line = 0; line < 8; line++) {
+            Due.line(script, "abcdefgh".substring(line));
+        }
+        Due.show(script, 1, 3, "DEFGH");
+        Due.is("learn", script.learn(1), 6);
+        script.run(1, 0, 7, SKIP);
+        for (int i = 0; i < 2; i++) {
+            Due.is("undo", script.undo(0), false);
+            for (int line = 0; line < 8; line++) {
+                Due.is("the line " + line, Due.text(script, line), line == 3 ? "DEFGH" : "abcdefgh".substring(line));
+            }
+            Due.is("do again", script.undo(0), true);
+            for (int line = 0; line < 8; line++) {
+                Due.is("the line " + line, Due.text(script, line), "ABCDEFGH".substring(line));
+            }
         }
     }
 

@@ -42,7 +42,7 @@ public final class Edges20Stand {
     }
 
     private static void linesThatCome() {
-        Due.sentence(PROMISE, "Lets a task stand, or not.");
+        Due.sentence(PROMISE, "`is`: whether it is standing then");
         PatchbayScript script = Stories.capitals("b");
         script.stand(0, true);
         Due.is("no run by that", script.runs(), 0);

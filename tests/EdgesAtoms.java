@@ -232,6 +232,16 @@ public final class EdgesAtoms {
         Due.line(script, "11a2b3c4d5e6f7g8h9");
         Due.line(script, "1a2b3c4d5e6f7g8h9i0");
         makes(script, "xy11/2/3/4/5/6/7/8/9", "?");
+        PatchbayScript other = new PatchbayScript();
+        Due.line(other, "1a2");
+        Due.type(other, "xyz");
+        other.pin(0, 0, CONST, 0, 0, 0);
+        other.pin(0, 1, EACH, 0, 0, 5);
+        Due.show(other, 0, 0, "xyz1/2");
+        Due.is("learn", other.learn(0), 20);
+        Due.line(other, "1a2b3c4d5e6f7g8h9i");
+        Due.line(other, "1a2b3c4d5e6f7g8h9i0");
+        makes(other, "xyz1/2/3/4/5/6/7/8/9", "?");
     }
 
     private static void weightsOfPrograms() {

@@ -18,6 +18,7 @@ public final class EdgesConditions {
         lowestOfTheSame();
         asksTheExampleAsItWas();
         makesWhatOneOfBothMakes();
+        failsThoughTheOtherDoesNot();
         noneIsLearnt();
         Due.end();
     }
@@ -32,6 +33,8 @@ public final class EdgesConditions {
         String told = "'" + held + "' and '" + other + "'";
         Due.is("learn of " + told, script.learn(0), 14);
         Due.is("the condition of " + told, script.condition(0), condition);
+        Due.is("the first program of " + told, Due.atom(script, 0, false, 0), "0 120 0 0 7");
+        Due.is("the second program of " + told, Due.atom(script, 0, true, 0), "0 121 0 0 7");
         for (String text : hold) {
             Due.is("where " + condition + " holds, '" + text + "'", Due.preview(script, 0, Due.line(script, text)), "x");
         }
@@ -142,6 +145,31 @@ public final class EdgesConditions {
         for (int i = 0; i < texts.length; i++) {
             Due.is("of '" + texts[i] + "'", Due.preview(script, 0, Due.line(script, texts[i])), made[i]);
         }
+    }
+
+    /** Letters ahead of digits, and x where there are no digits; x where there are, and letters where not. */
+    private static void failsThoughTheOtherDoesNot() {
+        Due.sentence(ATOMS, "Then the task has learnt both; of a text for which the condition holds it makes what the first"
+                + " one makes, of others what the second one does.");
+        PatchbayScript script = new PatchbayScript();
+        String[] texts = {"B1", "-", "1", "a", "2", "."};
+        for (String text : texts) {
+            Due.line(script, text);
+        }
+        Due.show(script, 0, 0, "B");
+        Due.show(script, 0, 1, "x");
+        Due.is("learn", script.learn(0), 11);
+        Due.is("the condition", script.condition(0), 0);
+        Due.is("the first one fails", Due.preview(script, 0, 4), "?");
+        Due.is("the second one does not", Due.preview(script, 0, 5), "x");
+        Due.show(script, 1, 2, "x");
+        Due.show(script, 1, 3, "a");
+        Due.is("learn", script.learn(1), 11);
+        Due.is("the condition", script.condition(1), 0);
+        Due.is("the first one does not fail", Due.preview(script, 1, 4), "x");
+        Due.is("the second one does", Due.preview(script, 1, 5), "?");
+        Due.is("a run skips it", script.run(1, 4, 5, PatchbayScript.SKIP), 1);
+        Due.is("and leaves the line", Due.text(script, 5), ".");
     }
 
     private static void noneIsLearnt() {

@@ -11,6 +11,7 @@ public final class EdgesLines {
         mostSteps();
         stepsInOrder();
         shownBetweenRuns();
+        shownToFourExamples();
         leavesIt();
         conditionThen();
         learntThen();
@@ -112,6 +113,23 @@ public final class EdgesLines {
         texts(script, 1, "hi");
         script.undo(0);
         texts(script, 1, "hi");
+    }
+
+    /** Each of the lines has an example of the tasks 1 and 2 as steps, and then a run that is undone. */
+    private static void shownToFourExamples() {
+        Due.sentence(LINES, "showing makes it what was shown");
+        PatchbayScript script = Stories.capitals("f", "g", "h", "i");
+        for (int line = 1; line <= 4; line++) {
+            Due.show(script, 1, line, "j" + line);
+            Due.show(script, 2, 5 - line, "k" + line);
+        }
+        texts(script, 1, "k4", "k3", "j3", "j4");
+        Due.is("run", script.run(0, 1, 4, STOP), 4);
+        texts(script, 1, "K", "K", "J", "J");
+        script.undo(0);
+        texts(script, 1, "k4", "k3", "j3", "j4");
+        script.undo(0);
+        texts(script, 1, "K", "K", "J", "J");
     }
 
     /** A run that has the line as its step, but whose program fails on it once a run ahead is undone. */

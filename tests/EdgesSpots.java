@@ -8,6 +8,7 @@ public final class EdgesSpots {
         1, 2, 1};
 
     public static void main(String[] args) {
+        fromZeroToTheLength();
         fromTheBeginning();
         fromTheEnd();
         runs();
@@ -23,6 +24,22 @@ public final class EdgesSpots {
         for (int i = 0; i < places.length; i++) {
             Due.is("the spot " + (first + i) + " of '" + text + "'", script.placeOf(0, first + i), places[i]);
         }
+    }
+
+    private static void fromZeroToTheLength() {
+        Due.sentence(TEXTS, "A spot tells a place of a text, from 0 up to its length, or none");
+        String[] texts = {"", " ", "a", "1 A", "Ab-12 C,d 34", "aB1 cD2 eF3 gH4 iJ5-", "1a2B3c4D5e6F7g8H9i0J"};
+        for (String text : texts) {
+            PatchbayScript script = new PatchbayScript();
+            Due.line(script, text);
+            for (int spot = 0; spot < 30; spot++) {
+                int place = script.placeOf(0, spot);
+                Due.is("whether the spot " + spot + " of '" + text + "' is in it, or none", place == NO
+                        || place >= 0 && place <= text.length(), true);
+            }
+        }
+        are("1a2B3c4D5e6F7g8H9i0J", 24, 0, NO, 0, 20, NO, 20);
+        are("1a2B3c4D5e6F7g8H9i0J", 18, 3, 7, 19, 4, 8, 20);
     }
 
     private static void fromTheBeginning() {

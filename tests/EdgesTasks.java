@@ -7,6 +7,11 @@ public final class EdgesTasks {
     private static final int STOP = PatchbayScript.STOP;
 
     public static void main(String[] args) {
+        threeTasks();
+        fourExamples();
+        fourRefusals();
+        fourPins();
+        makesWhatWasShown();
         whatALineWas();
         refusedOfOneText();
         pinsOfPlacesThatAreThere();
@@ -15,6 +20,8 @@ public final class EdgesTasks {
         firstThatIsFit();
         onlyThoseThatCount();
         oneForAllFirst();
+        partedNoMore();
+        partedAfterOthers();
         neitherEmpty();
         refusalsBindBoth();
         pinsBindBoth();
@@ -22,6 +29,83 @@ public final class EdgesTasks {
         keepsWhatItHasLearnt();
         standsNoMore();
         Due.end();
+    }
+
+    private static void threeTasks() {
+        Due.sentence(ATOMS, "There are the tasks 0 to 2.");
+        PatchbayScript script = new PatchbayScript();
+        script.line();
+        for (int task = 0; task < 3; task++) {
+            Due.is("an example", Due.show(script, task, 0, "abc".substring(task)), 1);
+        }
+        Due.is("the task 0", script.learn(0), 13);
+        Due.is("the task 1, to which abc was shown to become bc", script.learn(1), 7);
+        Due.is("the task 2, to which bc was shown to become c", script.learn(2), 7);
+        for (int task : Twins.outside(0, 2)) {
+            Due.failsIndex("count(" + task + ")", () -> script.count(task));
+            Due.failsIndex("learn(" + task + ")", () -> script.learn(task));
+        }
+    }
+
+    private static PatchbayScript withFiveLines() {
+        PatchbayScript script = new PatchbayScript();
+        for (int line = 0; line < 5; line++) {
+            Due.line(script, "ab");
+        }
+        return script;
+    }
+
+    private static void fourExamples() {
+        Due.sentence(ATOMS, "A task has examples, up to 4");
+        PatchbayScript script = withFiveLines();
+        for (int line = 0; line < 4; line++) {
+            Due.is("an example", Due.show(script, 0, line, "AB"), line + 1);
+            Due.is("learn", script.learn(0), 6);
+        }
+        script.type('x');
+        Due.failsState("a fifth example", () -> script.show(0, 4));
+        Due.is("learn", script.learn(0), 6);
+    }
+
+    private static void fourRefusals() {
+        Due.sentence(ATOMS, "refusals, up to 4: a text, and a text that must not come of it");
+        PatchbayScript script = withFiveLines();
+        Due.show(script, 0, 0, "AB");
+        script.learn(0);
+        for (int line = 1; line <= 4; line++) {
+            Due.is("a refusal", script.refuse(0, line), line);
+        }
+        Due.failsState("a fifth refusal", () -> script.refuse(0, 1));
+    }
+
+    private static void fourPins() {
+        Due.sentence(ATOMS, "pins, up to one for each of the places 0 to 3 of a program: an atom");
+        PatchbayScript script = withFiveLines();
+        for (int place = 0; place < 4; place++) {
+            Due.is("a pin", script.pin(0, place, PatchbayScript.CUT, 12, 15, 0), place + 1);
+            Due.is("a pin there again", script.pin(0, place, PatchbayScript.CUT, 0, 3, 0), place + 1);
+        }
+        for (int place : Twins.outside(0, 3)) {
+            Due.failsIndex("a pin at " + place, () -> script.pin(0, place, EACH, 0, 0, 0));
+        }
+        Due.show(script, 0, 0, "abababab");
+        Due.is("learn", script.learn(0), 32);
+    }
+
+    /** "ab" to the last sign, and no sign more. */
+    private static void makesWhatWasShown() {
+        Due.sentence(ATOMS, "A program is fit for some of the examples, if it makes of each of them what was shown");
+        PatchbayScript script = new PatchbayScript();
+        Due.line(script, "ab");
+        Due.line(script, "ab c");
+        Due.show(script, 0, 0, "ab");
+        Due.is("learn: from the first letters to the first ones", script.learn(0), 4);
+        Due.show(script, 0, 1, "ab c");
+        Due.is("learn: to the last ones", script.learn(0), 4);
+        Due.is("its atom", Due.atom(script, 0, false, 0), "1 12 17 0 4");
+        Due.line(script, "ab c");
+        Due.show(script, 0, 2, "ab ");
+        Due.is("learn: none makes all three", script.learn(0), NONE);
     }
 
     /** The line was "CD" by a run when it was shown; that the run is undone does not matter. */
@@ -181,6 +265,45 @@ public final class EdgesTasks {
         Due.show(script, 0, 2, "cd");
         Due.is("learn of three", script.learn(0), 8);
         Due.is("it is parted", script.condition(0), 0);
+    }
+
+    /** With a pin at the place 1 two programs of one atom are learnt, without it one of two atoms. */
+    private static void partedNoMore() {
+        Due.sentence(ATOMS, "If there is one for all examples, it is what the task has learnt.");
+        PatchbayScript script = new PatchbayScript();
+        Due.line(script, "1");
+        Due.line(script, "a");
+        Due.show(script, 0, 0, "1x");
+        Due.show(script, 0, 1, "ax");
+        for (int i = 0; i < 2; i++) {
+            script.pin(0, 1, EACH, 0, 0, 0);
+            Due.is("learn with the pin", script.learn(0), 20);
+            Due.is("it is parted", script.condition(0), 0);
+            script.pin(0, 1, NONE, 0, 0, 0);
+            Due.is("learn without the pin", script.learn(0), 11);
+            Due.is("it is not parted", script.condition(0), NONE);
+            Due.is("there is no second program", script.atomAt(0, true, 0, 0), NONE);
+            Due.is("of 'ax', which the line is by now", Due.preview(script, 0, 1), "axx");
+        }
+    }
+
+    /** What was asked of another task between counting and learning does not matter. */
+    private static void partedAfterOthers() {
+        Due.sentence(ATOMS, "for both there has to be one that is learnt, each with all refusals and pins");
+        PatchbayScript script = new PatchbayScript();
+        Due.line(script, "1");
+        Due.line(script, "a");
+        Due.show(script, 0, 0, "x");
+        Due.show(script, 0, 1, "y");
+        Due.line(script, "b2");
+        Due.line(script, "3 c");
+        Due.show(script, 1, 2, "b");
+        Due.show(script, 1, 3, "3");
+        Due.is("none makes both", script.count(0), 0);
+        Due.is("some make both of the other task", script.count(1) > 0, true);
+        Due.is("learn: parted", script.learn(0), 14);
+        Due.is("the first program", Due.atom(script, 0, false, 0), "0 120 0 0 7");
+        Due.is("the second program", Due.atom(script, 0, true, 0), "0 121 0 0 7");
     }
 
     private static void neitherEmpty() {

@@ -88,9 +88,9 @@ public final class EdgesTexts {
     }
 
     private static void spots(PatchbayScript script, int line, int first, int... places) {
+        String text = Due.text(script, line);
         for (int i = 0; i < places.length; i++) {
-            Due.is("the spot " + (first + i) + " of '" + Due.text(script, line) + "'", script.placeOf(line, first + i),
-                    places[i]);
+            Due.is("the spot " + (first + i) + " of '" + text + "'", script.placeOf(line, first + i), places[i]);
         }
     }
 

@@ -32,7 +32,7 @@ public final class Face {
             "boolean stand(int boolean) throws IndexOutOfBoundsException IllegalStateException",
             "int asked()");
     private static final List<String> CONSTANTS = List.of("ASK", "CONST", "CUT", "EACH", "NONE", "SKIP", "STOP");
-    /** A new object may take its share of the room, and a few hundred calls next to nothing of it. */
+    /** A new object may take its share of the room, and all calls on it next to nothing of it. */
     private static final long MOST_BYTES_OF_NEW = 1_000_000;
     private static final long MOST_BYTES_OF_CALLS = 100_000;
 
@@ -116,7 +116,7 @@ public final class Face {
             Due.show(script, 0, i, texts[texts.length - 1 - i]);
             Due.show(script, 1, i, texts[i]);
         }
-        for (int i = 0; i < 400; i++) {
+        for (int i = 0; i < 110; i++) {
             script.pin(i % 2, 3, i % 4 - 1 == 0 ? -1 : i % 4 - 1, i % 4, i % 3, i % 4);
             script.learn(i % 2);
             script.question(i % 2);

@@ -3,8 +3,11 @@ import java.util.List;
 
 /** Long runs of calls by chance (told ahead by a seed), each answer compared with the model's. */
 public final class ModelRuns {
-    private static final int RUNS = 400;
-    private static final int MOST_CALLS = 500;
+    private static final int RUNS = 2000;
+    /** What an object answers after so many calls is free. */
+    private static final int MOST_CALLS = 512;
+    /** Of two programs of four atoms, each asked for its five numbers, and once more for its kind. */
+    private static final int MOST_OF_ATOMS = 2 * (4 * 6 + 1);
     private static final String[] NAMES = {"Ada Byron", "Bob Cox", "eve k li", "Al B C Dow", "x", "Mr. Jo Ng", "ANN-Lee Roy"};
     private static final String[] DATES = {"7.11.26", "2026-11-18", "18/11/2026", "1.2", "a 12", "3.4.05", "no 4, at 5"};
     private static final String[] PILES = {"aA1 ", "a", "a1", "aA", "a .", "abc,1-", Model.SIGNS};
@@ -15,6 +18,7 @@ public final class ModelRuns {
     private final int run;
     private final boolean isWild;
     private long chance;
+    private int calls;
     private boolean isWrong;
 
     private interface Answer {
@@ -36,7 +40,7 @@ public final class ModelRuns {
             ModelRuns one = new ModelRuns(i);
             one.play();
             wrong += one.isWrong ? 1 : 0;
-            calls += one.told.size();
+            calls += one.calls;
         }
         System.out.println(runs + " runs, " + calls + " calls, " + wrong + " runs not as the model");
         if (wrong != 0) {
@@ -49,7 +53,12 @@ public final class ModelRuns {
         return (int) ((chance >>> 33) % bound);
     }
 
+    /** Asks both, if the object has calls left. */
     private void same(String call, Answer ours, Answer due) {
+        if (calls >= MOST_CALLS) {
+            return;
+        }
+        calls++;
         told.add(call);
         String got = answer(ours);
         String want = answer(due);
@@ -68,7 +77,7 @@ public final class ModelRuns {
     }
 
     private void play() {
-        while (told.size() < MOST_CALLS && !isWrong) {
+        while (calls < MOST_CALLS && !isWrong) {
             switch (below(24)) {
                 case 0, 1, 2 -> newLine();
                 case 3, 4, 5, 6, 7 -> showSome();
@@ -84,7 +93,7 @@ public final class ModelRuns {
                 case 21 -> type(Model.SIGNS.charAt(below(Model.SIGNS.length())));
                 default -> question(below(3));
             }
-            lookAtLines();
+            lookAt(aLine());
         }
     }
 
@@ -176,13 +185,7 @@ public final class ModelRuns {
         boolean isElse = below(2) == 0;
         same("atomAt(" + task + ", " + isElse + ", " + place + ", " + what + ")",
                 () -> script.atomAt(task, isElse, place, what), () -> model.atomAt(task, isElse, place, what));
-        for (int i = 0; i < 4 * 5 * 2; i++) {
-            int at = i / 10;
-            int number = i / 2 % 5;
-            boolean second = i % 2 == 1;
-            is("atomAt(" + task + ", " + second + ", " + at + ", " + number + ")",
-                    script.atomAt(task, second, at, number), model.atomAt(task, second, at, number));
-        }
+        lookAtAtoms(task);
         question(task);
         int line = aLine();
         int sign = below(6);
@@ -282,22 +285,34 @@ public final class ModelRuns {
         same("placeOf(" + line + ", " + spot + ")", () -> script.placeOf(line, spot), () -> model.placeOf(line, spot));
     }
 
-    /** Not told as calls: no call of these changes anything. */
-    private void lookAtLines() {
-        for (int line = 0; line < model.lines.size(); line++) {
-            String text = model.lines.get(line).text();
-            is("length(" + line + ")", script.length(line), text.length());
-            for (int i = 0; i < text.length() && !isWrong; i++) {
-                is("signAt(" + line + ", " + i + ")", script.signAt(line, i), text.charAt(i));
-            }
+    // What follows is not told: none of these calls changes anything.
+
+    private void lookAtAtoms(int task) {
+        if (calls + MOST_OF_ATOMS <= MOST_CALLS) {
+            String got = Due.atoms((isElse, place, what) -> {
+                calls++;
+                return script.atomAt(task, isElse, place, what);
+            });
+            is("the atoms of " + task, got, Due.atoms((isElse, place, what) -> model.atomAt(task, isElse, place, what)));
         }
     }
 
-    private void is(String call, long got, long want) {
-        if (got != want && !isWrong) {
+    private void lookAt(int line) {
+        if (line >= model.lines.size()) {
+            return;
+        }
+        String text = model.lines.get(line).text();
+        if (calls + 1 + text.length() <= MOST_CALLS) {
+            calls += 1 + text.length();
+            is("the line " + line, Due.text(script, line), text);
+        }
+    }
+
+    private void is(String call, String got, String want) {
+        if (!got.equals(want) && !isWrong) {
             isWrong = true;
-            System.out.println("run " + run + ": " + String.join("; ", told) + "; " + call + " answered " + got
-                    + ", due is " + want);
+            System.out.println("run " + run + ": " + String.join("; ", told) + "; " + call + " answered '" + got
+                    + "', due is '" + want + "'");
         }
     }
 }

@@ -8,7 +8,9 @@ import java.util.List;
  */
 public final class OtherTasks {
     private static final int RUNS = 4000;
-    private static final int TIMES = 60;
+    private static final int SEARCHES = 60;
+    /** No object is used for more than 512 calls. */
+    private static final int TIMES = 40;
     private static final String[] PILES = {"abcd", "ab", "aA", "aA1 ", "1a.", "a ,"};
 
     private final int run;
@@ -36,7 +38,7 @@ public final class OtherTasks {
     }
 
     public static void main(String[] args) {
-        for (int searches = 0; searches < TIMES; searches++) {
+        for (int searches = 0; searches < SEARCHES; searches++) {
             afterFourExamples(searches);
         }
         for (int run = 0; run < RUNS; run++) {
@@ -164,10 +166,7 @@ public final class OtherTasks {
         is("question", busy.question(task), quiet.question(task));
         is("learn", busy.learn(task), quiet.learn(task));
         is("condition", busy.condition(task), quiet.condition(task));
-        for (int i = 0; i < 4 * 5 * 2; i++) {
-            boolean isElse = i % 2 == 1;
-            is("atomAt " + i, busy.atomAt(task, isElse, i / 10, i / 2 % 5),
-                    quiet.atomAt(task, isElse, i / 10, i / 2 % 5));
-        }
+        Due.is("run " + run + ": atoms", Due.atoms((isElse, place, what) -> busy.atomAt(task, isElse, place, what)),
+                Due.atoms((isElse, place, what) -> quiet.atomAt(task, isElse, place, what)));
     }
 }

@@ -101,6 +101,26 @@ final class Due {
         return sign == '?' ? "?" : text.toString();
     }
 
+    /** A number of an atom, of the first or the second program, at a place. */
+    interface Atoms {
+        int number(boolean isElse, int place, int what);
+    }
+
+    /** All atoms of both programs, asked until there are no more. */
+    static String atoms(Atoms atoms) {
+        StringBuilder numbers = new StringBuilder();
+        for (int program = 0; program < 2; program++) {
+            boolean isElse = program == 1;
+            numbers.append("program ").append(program).append(": ");
+            for (int place = 0; atoms.number(isElse, place, 0) != PatchbayScript.NONE; place++) {
+                for (int what = 0; what <= 4; what++) {
+                    numbers.append(atoms.number(isElse, place, what)).append(what < 4 ? " " : "; ");
+                }
+            }
+        }
+        return numbers.toString();
+    }
+
     /** An atom of what a task has learnt: its kind, its numbers a, b, c, its weight. */
     static String atom(PatchbayScript script, int task, boolean isElse, int place) {
         StringBuilder numbers = new StringBuilder();

@@ -52,14 +52,7 @@ final class Probe {
 
     private void askLearnt(int task) {
         say("condition", () -> script.condition(task));
-        for (int program = 0; program < 2; program++) {
-            boolean isElse = program == 1;
-            for (int place = 0; script.atomAt(task, isElse, place, 0) != NONE; place++) {
-                for (int what = 0; what < 4; what++) {
-                    told.append(script.atomAt(task, isElse, place, what)).append(' ');
-                }
-            }
-        }
+        told.append(Due.atoms((isElse, place, what) -> script.atomAt(task, isElse, place, what)));
     }
 
     private void askCounting(int task) {
@@ -89,9 +82,10 @@ final class Probe {
         say("refuse 1", () -> script.refuse(task, 1));
         say("learn", () -> script.learn(task));
         askLearnt(task);
-        for (int place = 0; place < 4; place++) {
+        for (int place = 3; place >= 0; place--) {
             int at = place;
             say("pin none", () -> script.pin(task, at, NONE, 0, 0, 0));
+            say("count", () -> script.count(task));
         }
         say("learn", () -> script.learn(task));
         askLearnt(task);
