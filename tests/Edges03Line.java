@@ -87,7 +87,7 @@ public final class Edges03Line {
         Due.sentence(PROMISE, "Throws `IllegalStateException` if there are 8, or there would be more than 30 runs");
         Twins.failState("a ninth line with 31 runs", script -> {
             Stories.eightLines(script);
-            while (script.runs() < 30) {
+            for (int run = script.runs(); run < 30; run++) {
                 script.run(2, 1, 1, PatchbayScript.SKIP);
             }
         }, PatchbayScript::line);

@@ -222,26 +222,23 @@ public final class EdgesAtoms {
         makes(Stories.learnt("bcdef", "bcdefx", nineteen, nineteen + "t"), nineteen + "x", "?");
         makes(Stories.learnt("bcdef", "xbcdef", nineteen, nineteen + "t"), "x" + nineteen, "?");
         makes(Stories.learnt("abcde", "abcdeabcde", "bcdefghijk", "bcdefghijkl"), "bcdefghijkbcdefghijk", "?");
+        makes(digitsWithMarks("xy", 17, "11a2b3c4d5e6f7g8h9", "1a2b3c4d5e6f7g8h9i0"), "xy11/2/3/4/5/6/7/8/9", "?");
+        makes(digitsWithMarks("xyz", 20, "1a2b3c4d5e6f7g8h9i", "1a2b3c4d5e6f7g8h9i0"), "xyz1/2/3/4/5/6/7/8/9", "?");
+    }
+
+    /** A CONST, and all digits with "/" between them, are learnt; the lines behind the example are those told. */
+    private static PatchbayScript digitsWithMarks(String ahead, int weight, String... texts) {
         PatchbayScript script = new PatchbayScript();
         Due.line(script, "1a2");
-        Due.type(script, "xy");
+        Due.type(script, ahead);
         script.pin(0, 0, CONST, 0, 0, 0);
         script.pin(0, 1, EACH, 0, 0, 5);
-        Due.show(script, 0, 0, "xy1/2");
-        Due.is("learn", script.learn(0), 17);
-        Due.line(script, "11a2b3c4d5e6f7g8h9");
-        Due.line(script, "1a2b3c4d5e6f7g8h9i0");
-        makes(script, "xy11/2/3/4/5/6/7/8/9", "?");
-        PatchbayScript other = new PatchbayScript();
-        Due.line(other, "1a2");
-        Due.type(other, "xyz");
-        other.pin(0, 0, CONST, 0, 0, 0);
-        other.pin(0, 1, EACH, 0, 0, 5);
-        Due.show(other, 0, 0, "xyz1/2");
-        Due.is("learn", other.learn(0), 20);
-        Due.line(other, "1a2b3c4d5e6f7g8h9i");
-        Due.line(other, "1a2b3c4d5e6f7g8h9i0");
-        makes(other, "xyz1/2/3/4/5/6/7/8/9", "?");
+        Due.show(script, 0, 0, ahead + "1/2");
+        Due.is("learn", script.learn(0), weight);
+        for (String text : texts) {
+            Due.line(script, text);
+        }
+        return script;
     }
 
     private static void weightsOfPrograms() {

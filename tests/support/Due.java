@@ -1,5 +1,7 @@
 /** What the tests share: answers compared with those that are due, and calls in plain words. */
 final class Due {
+    /** More than a program or a text can have, so that asking ends where a program does not end them. */
+    private static final int MOST = 25;
     private static int wrong = 0;
     private static String sentence = "";
 
@@ -94,7 +96,7 @@ final class Due {
     static String preview(PatchbayScript script, int task, int line) {
         StringBuilder text = new StringBuilder();
         char sign = script.preview(task, line, 0);
-        while (sign != '!' && sign != '?') {
+        while (sign != '!' && sign != '?' && text.length() < MOST) {
             text.append(sign);
             sign = script.preview(task, line, text.length());
         }
@@ -112,7 +114,7 @@ final class Due {
         for (int program = 0; program < 2; program++) {
             boolean isElse = program == 1;
             numbers.append("program ").append(program).append(": ");
-            for (int place = 0; atoms.number(isElse, place, 0) != PatchbayScript.NONE; place++) {
+            for (int place = 0; place < MOST && atoms.number(isElse, place, 0) != PatchbayScript.NONE; place++) {
                 for (int what = 0; what <= 4; what++) {
                     numbers.append(atoms.number(isElse, place, what)).append(what < 4 ? " " : "; ");
                 }

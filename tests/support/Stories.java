@@ -46,7 +46,7 @@ final class Stories {
     /** The same with so many runs. */
     static void withRuns(PatchbayScript script, int runs) {
         rich(script);
-        while (script.runs() < runs) {
+        for (int run = script.runs(); run < runs; run++) {
             script.run(2, 1, 1, PatchbayScript.SKIP);
         }
     }
