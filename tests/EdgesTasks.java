@@ -236,11 +236,11 @@ public final class EdgesTasks {
         Due.failsState("a fifth refusal", () -> script.refuse(0, 1));
     }
 
-    /** Two refusals for the first two; the third, the fourth, the fifth make the same of a line without letters. */
+    /** One refusal keeps out all that count; others would be fit. */
     private static void onlyThoseThatCount() {
         Due.sentence(ATOMS, "What is learnt of these examples is the first of those that count which is fit; without such a"
                 + " one there is none.");
-        PatchbayScript script = Stories.learnt("1,11", ",", "2.3", "2.3,4");
+        PatchbayScript script = Stories.learnt("1,11", ",", "2.3");
         Due.is("refuse what all five make", script.refuse(0, 1), 1);
         Due.is("a CONST would be fit, but is not among the first five", script.learn(0), NONE);
         Due.is("five count", script.count(0), 5);
