@@ -70,7 +70,8 @@ public final class Readme {
             }
             String name = nameOf(blocks.get(i));
             Files.writeString(folder.resolve(name + ".java"), blocks.get(i).text);
-            Ended ended = inShell("javac -Xlint:all -Werror PatchbayScript.java " + name + ".java && java " + name, folder);
+            String commands = "javac -Xlint:all -Werror PatchbayScript.java " + name + ".java && java " + name;
+            Ended ended = inShell(commands, folder);
             Block next = i + 1 < blocks.size() ? blocks.get(i + 1) : new Block("", "");
             Due.is("what stands behind " + name, next.kind, "text");
             Due.is("what " + name + " prints", ended.printed, next.text);
@@ -119,7 +120,8 @@ public final class Readme {
             if (Modifier.isPublic(method.getModifiers())) {
                 Due.is("whether it names " + method.getName(), readme.contains("`" + method.getName() + "("), true);
                 for (Class<?> exception : method.getExceptionTypes()) {
-                    Due.is("whether it tells of " + exception, readme.contains("`" + exception.getSimpleName() + "`"), true);
+                    String name = exception.getSimpleName();
+                    Due.is("whether it tells of " + name, readme.contains("`" + name + "`"), true);
                 }
             }
         }

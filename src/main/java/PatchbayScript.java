@@ -605,17 +605,28 @@ public final class PatchbayScript {
 
         /** What: 1, 2, 3 for a, b, c. */
         private static int partOf(int atom, int what) {
-            boolean isCut = kindOf(atom) == CUT;
-            int rest = isCut ? atom : atom - CUTS;
-            int most = isCut ? WAYS : Sign.MARKS;
-            int middle = isCut ? Text.SPOTS : PARTS;
+            return kindOf(atom) == CUT ? partOfCut(atom, what) : partOfEach(atom - CUTS, what);
+        }
+
+        private static int partOfCut(int cut, int what) {
             switch (what) {
                 case 1:
-                    return rest / most / middle;
+                    return cut / WAYS / Text.SPOTS;
                 case 2:
-                    return rest / most % middle;
+                    return cut / WAYS % Text.SPOTS;
                 default:
-                    return rest % most;
+                    return cut % WAYS;
+            }
+        }
+
+        private static int partOfEach(int each, int what) {
+            switch (what) {
+                case 1:
+                    return each / Sign.MARKS / PARTS;
+                case 2:
+                    return each / Sign.MARKS % PARTS;
+                default:
+                    return each % Sign.MARKS;
             }
         }
 
@@ -626,18 +637,22 @@ public final class PatchbayScript {
             return spot % 3 == 1 ? 2 : 1;
         }
 
+        static int weightOfConst(int signs) {
+            return 4 + 3 * signs;
+        }
+
         static int weightOfCut(int a, int b, int c) {
             return 2 + weightOfSpot(a) + weightOfSpot(b) + (c == 0 ? 0 : 2);
         }
 
-        static int weightOfEach(int b, int c) {
+        private static int weightOfEach(int b, int c) {
             return 6 + (b == 0 ? 0 : 1) + (c == 0 ? 0 : 1);
         }
 
         static int weightOf(int atom) {
             switch (kindOf(atom)) {
                 case CONST:
-                    return 4 + 3 * signsOf(atom);
+                    return weightOfConst(signsOf(atom));
                 case CUT:
                     return weightOfCut(partOf(atom, 1), partOf(atom, 2), partOf(atom, 3));
                 default:
@@ -1204,7 +1219,7 @@ public final class PatchbayScript {
                 }
             }
             for (int each = 0; each < Atom.EACHES && atomCount < MOST_ATOMS; each++) {
-                gatherEach(each, Atom.weightOfEach(each / Sign.MARKS % Atom.PARTS, each % Sign.MARKS));
+                gatherEach(each, Atom.weightOf(Atom.CUTS + each));
             }
             gatherShared();
         }
@@ -1416,7 +1431,7 @@ public final class PatchbayScript {
                 for (int n = 1; n <= stock.shared[column * ENDS + place]; n++) {
                     atom = Atom.withSign(atom, n - 1, text.at(place + n - 1));
                     if (pin == NONE || pin == atom) {
-                        ways[here + place] |= ways[then + place + n] << 3 * n;
+                        ways[here + place] |= ways[then + place + n] << Atom.weightOfConst(n) - Atom.LEAST_WEIGHT;
                     }
                 }
             }
@@ -1487,7 +1502,7 @@ public final class PatchbayScript {
                 }
                 atom = Atom.withSign(atom, n - 1, sign);
                 if (pins[place] == NONE || pins[place] == atom) {
-                    all |= endings(size, place + 1, -1L) << 3 * n;
+                    all |= endings(size, place + 1, -1L) << Atom.weightOfConst(n) - Atom.LEAST_WEIGHT;
                 }
             }
             return all;
@@ -1541,7 +1556,7 @@ public final class PatchbayScript {
                 atom = Atom.withSign(atom, n - 1, sign);
                 if (pins[place] == NONE || pins[place] == atom) {
                     row[place] = atom;
-                    walk(size, place + 1, rest - Atom.weightOf(atom));
+                    walk(size, place + 1, rest - Atom.weightOfConst(n));
                 }
             }
         }
